@@ -174,7 +174,7 @@ public final class SampleHouse {
     }
 
     public long exact(int t, int what) {
-        if (!isExact(t) || what < 0 || what > 2) {
+        if (!isTold(t) || what < 0 || what > 2) {
             return NONE;
         }
         long ways = rules.ways(t);
@@ -188,7 +188,7 @@ public final class SampleHouse {
     }
 
     public long colours(int t, int k) {
-        if (!isExact(t) || k < 0 || k > rules.nodes) {
+        if (!isTold(t) || k < 0 || k > rules.nodes) {
             return NONE;
         }
         if (rules.ways(t) == TOO_GREAT) {
@@ -198,7 +198,7 @@ public final class SampleHouse {
     }
 
     public int odds(int t) {
-        if (!isExact(t)) {
+        if (!isTold(t)) {
             return NONE;
         }
         long ways = rules.ways(t);
@@ -446,7 +446,8 @@ public final class SampleHouse {
         return 0;
     }
 
-    private static boolean isExact(int t) {
+    /** A number of queries that odds are told of. */
+    private static boolean isTold(int t) {
         return t >= 1 && t <= MOST_EXACT;
     }
 

@@ -21,6 +21,16 @@ final class Check {
         due(call, want ? 1 : 0, got ? 1 : 0);
     }
 
+    /** Whatever it answers, nothing may be thrown. */
+    void calm(String call, Call asking) {
+        asked++;
+        try {
+            asking.answer();
+        } catch (RuntimeException | Error e) {
+            tell(call + " threw " + e);
+        }
+    }
+
     /** Only NoSuchElementException itself is due, no class below or above it. */
     void none(String call, Call asking) {
         asked++;

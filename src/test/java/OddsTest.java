@@ -1,0 +1,346 @@
+import java.math.BigInteger;
+
+/** Promises 12 to 17: odds, the way to a split, the chain. */
+public final class OddsTest {
+    private static final int NONE = SampleHouse.NONE;
+    private static final int OTHERS = -2;
+    private static final int TOO_GREAT = -2;
+    private static final int UNKNOWN = -3;
+    private static final int FAR = Integer.MAX_VALUE;
+    private static final int LOW = Integer.MIN_VALUE;
+    private static Check check = new Check();
+
+    private static SampleHouse made(int nodes, int sample, int alpha, int beta, int protocol, int... colours) {
+        SampleHouse x = new SampleHouse();
+        check.due("group", true, x.group(nodes, sample, alpha, beta));
+        x.protocol(protocol);
+        for (int i = 0; i < colours.length; i++) {
+            check.due("colour", true, x.colour(i, colours[i]));
+        }
+        return x;
+    }
+
+    private static void exact(SampleHouse x, int t, long ways, long splits, long agreed) {
+        check.due("exact(" + t + ", 0)", ways, x.exact(t, 0));
+        check.due("exact(" + t + ", 1)", splits, x.exact(t, 1));
+        check.due("exact(" + t + ", 2)", agreed, x.exact(t, 2));
+    }
+
+    private static void colours(SampleHouse x, int t, long... want) {
+        for (int k = 0; k < want.length; k++) {
+            check.due("colours(" + t + ", " + k + ")", want[k], x.colours(t, k));
+        }
+    }
+
+    /** Two nodes, unlike: the first query makes both alike, and decides the one that asked. */
+    private static void twoNodes() {
+        SampleHouse x = made(2, 1, 1, 1, 1, 1, 0);
+        exact(x, 1, 2, 0, 0);
+        colours(x, 1, 1, 0, 1);
+        exact(x, 2, 4, 0, 2);
+        colours(x, 2, 2, 0, 2);
+        exact(x, 3, 8, 0, 6);
+        exact(x, 12, 4096, 0, 4094);
+        check.due("count(12)", 0, x.count(12));
+        check.due("node(0, 5)", 0, x.node(0, 5));
+        x.protocol(0);
+        exact(x, 1, 2, 0, 0);
+        exact(x, 5, 32, 0, 0);
+        colours(x, 5, 16, 0, 16);
+    }
+
+    /** Each change is seen by the next call. */
+    private static void followsChanges() {
+        SampleHouse x = made(3, 1, 1, 1, 1, 0, 1, 1);
+        exact(x, 2, 36, 4, 0);
+        x.kind(2, 4);
+        // 0 and 1 alone: of (2 nodes, 3 with the liar) 2 samples each; asking the liar none wins.
+        exact(x, 1, 6, 0, 0);
+        exact(x, 2, 36, 0, 2);
+        x.back();
+        exact(x, 2, 36, 4, 0);
+        x.link(0, 1, false);
+        x.link(0, 2, false);
+        exact(x, 2, 36, 0, 0);
+        x.back();
+        x.back();
+        x.query(1, 1);
+        exact(x, 1, 6, 1, 0);
+        x.colour(1, NONE);
+        exact(x, 1, 6, 0, 0);
+        x.group(3, 2, 2, 1);
+        exact(x, 1, 3, 0, 0);
+        x.colour(0, 1);
+        x.colour(1, 1);
+        x.colour(2, 1);
+        exact(x, 3, 27, 0, 6);
+        x.run(1, 7);
+        exact(x, 2, 9, 0, 2);
+        x.protocol(0);
+        exact(x, 2, 9, 0, 0);
+    }
+
+    /** A liar's, a decided one's, a colourless one's query does nothing, but counts among the ways. */
+    private static void doNothing() {
+        SampleHouse x = made(4, 1, 1, 2, 1);
+        exact(x, 12, 8916100448256L, 0, 0);
+        colours(x, 12, 8916100448256L, 0, 0, 0, 0);
+        for (int i = 0; i < 4; i++) {
+            x.kind(i, 2);
+        }
+        exact(x, 2, 144, 0, 0);
+        SampleHouse y = made(2, 1, 1, 1, 1, 1, 1);
+        y.query(0, 2);
+        y.query(1, 1);
+        exact(y, 1, 2, 0, 2);
+        y.kind(0, 1);
+        exact(y, 1, 2, 0, 2);
+        y.kind(1, 1);
+        exact(y, 1, 2, 0, 0);
+    }
+
+    private static void refused() {
+        SampleHouse x = made(4, 1, 1, 2, 1, 1, 0, 1, 0);
+        for (int t : new int[] {0, 13, -1, FAR, LOW}) {
+            for (int what = 0; what < 3; what++) {
+                check.due("exact(" + t + ", " + what + ")", NONE, x.exact(t, what));
+            }
+            check.due("colours(" + t + ", 0)", NONE, x.colours(t, 0));
+            check.due("odds(" + t + ")", NONE, x.odds(t));
+        }
+        for (int what : new int[] {-1, 3, FAR, LOW}) {
+            check.due("exact(1, " + what + ")", NONE, x.exact(1, what));
+        }
+        for (int k : new int[] {-1, 5, FAR, LOW}) {
+            check.due("colours(1, " + k + ")", NONE, x.colours(1, k));
+        }
+        x.group(8, 3, 2, 2);
+        check.due("others ahead of too great", NONE, x.exact(12, 3));
+        check.due("others ahead of too great", NONE, x.colours(12, 9));
+        check.due("colours(1, 8)", 0, x.colours(1, 8));
+    }
+
+    private static void tooGreat() {
+        for (int nodes = 2; nodes <= 8; nodes++) {
+            for (int sample = 1; sample < nodes; sample++) {
+                SampleHouse x = made(nodes, sample, sample, 1, 0);
+                long samples = 1;
+                for (int i = 0; i < sample; i++) {
+                    samples = samples * (nodes - 1 - i) / (i + 1);
+                }
+                for (int t = 1; t <= 12; t++) {
+                    BigInteger ways = BigInteger.valueOf(nodes * samples).pow(t);
+                    boolean fits = ways.bitLength() <= 63;
+                    check.due("ways", fits ? ways.longValue() : TOO_GREAT, x.exact(t, 0));
+                    check.due("splits", fits ? 0 : TOO_GREAT, x.exact(t, 1));
+                    check.due("agreed", fits ? 0 : TOO_GREAT, x.exact(t, 2));
+                    check.due("all without 1", fits ? ways.longValue() : TOO_GREAT, x.colours(t, 0));
+                    check.due("odds", fits ? 0 : TOO_GREAT, x.odds(t));
+                }
+            }
+        }
+    }
+
+    /** Three that hear three liars alone have just 2000 states behind ten queries. */
+    private static void justKnown() {
+        SampleHouse x = made(6, 1, 1, 8, 1, 0, 0, 0);
+        liars(x, 3);
+        x.link(0, 1, false);
+        x.link(0, 2, false);
+        x.link(1, 2, false);
+        long ways = BigInteger.valueOf(30).pow(10).longValueExact();
+        exact(x, 10, ways, 0, 0);
+        long sum = 0;
+        for (int k = 0; k <= 6; k++) {
+            sum += x.colours(10, k);
+        }
+        check.due("all colours(10, k)", ways, sum);
+        check.due("odds(10)", 0, x.odds(10));
+        exact(x, 11, ways * 30, UNKNOWN, UNKNOWN);
+        exact(x, 12, ways * 900, UNKNOWN, UNKNOWN);
+        check.due("colours(11, 0)", UNKNOWN, x.colours(11, 0));
+        check.due("odds(11)", UNKNOWN, x.odds(11));
+        check.due("others ahead of unknown", NONE, x.colours(11, 7));
+        check.due("10 is known ever again", 0, x.exact(10, 1));
+    }
+
+    /** Four that hear liars have 2001 states behind seven queries. */
+    private static void justUnknown() {
+        SampleHouse x = made(7, 1, 1, 4, 1, 0, 0, 0, 0);
+        liars(x, 4);
+        for (int i = 0; i < 4; i++) {
+            for (int j = i + 1; j < 4; j++) {
+                x.link(i, j, false);
+            }
+        }
+        x.link(0, 4, false);
+        check.due("exact(7, 1)", UNKNOWN, x.exact(7, 1));
+        check.due("exact(6, 2)", 0, x.exact(6, 2));
+        check.due("exact(7, 2)", UNKNOWN, x.exact(7, 2));
+        check.due("exact(7, 0)", BigInteger.valueOf(42).pow(7).longValueExact(), x.exact(7, 0));
+    }
+
+    /** From node on: one says 0, one says 1, one says nothing. */
+    private static void liars(SampleHouse x, int node) {
+        x.kind(node, 1);
+        x.kind(node + 1, 2);
+        x.kind(node + 2, 4);
+    }
+
+    private static void odds() {
+        SampleHouse x = made(3, 1, 1, 1, 1, 0, 1, 1);
+        for (int t = 1; t <= 12; t++) {
+            check.due("odds(" + t + ")", Float.floatToIntBits((float) x.exact(t, 1) / (float) x.exact(t, 0)), x.odds(t));
+        }
+        check.due("odds(2)", Float.floatToIntBits(4f / 36f), x.odds(2));
+        x.query(1, 1);
+        x.query(0, 4);
+        check.due("split for good", Float.floatToIntBits(1f), x.odds(12));
+        exact(x, 1, 6, 6, 0);
+        // Many ways: both are rounded to floats ahead of the division.
+        SampleHouse y = made(6, 1, 1, 1, 1, 0, 0, 0);
+        liars(y, 3);
+        long splits = y.exact(12, 1);
+        check.due("more than a float holds", true, (long) (float) splits != splits);
+        check.due("odds(12)", Float.floatToIntBits((float) splits / (float) y.exact(12, 0)), y.odds(12));
+    }
+
+    private static void way(SampleHouse x, int... nodeAndSample) {
+        check.due("soonest()", nodeAndSample.length / 2, x.soonest());
+        for (int i = 0; i < nodeAndSample.length; i++) {
+            check.due("way(" + i / 2 + ", " + i % 2 + ")", nodeAndSample[i], x.way(i / 2, i % 2));
+        }
+        check.due("way behind its end", OTHERS, x.way(nodeAndSample.length / 2, 0));
+        check.due("way(-1, 0)", OTHERS, x.way(-1, 0));
+        check.due("way(0, 2)", OTHERS, x.way(0, 2));
+        check.due("way(0, -1)", OTHERS, x.way(0, -1));
+        check.due("way(FAR, 1)", OTHERS, x.way(FAR, 1));
+        check.due("way(LOW, 0)", OTHERS, x.way(LOW, 0));
+    }
+
+    private static void soonest() {
+        SampleHouse x = made(3, 1, 1, 1, 1, 0, 1, 1);
+        way(x, 1, 1, 0, 4);
+        check.due("no query is made", 0, x.count(12));
+        check.due("nothing more to take back", 3, x.count(16));
+        x.query(1, 1);
+        way(x, 0, 4);
+        x.query(0, 4);
+        way(x);
+        x.kind(0, 1);
+        check.due("of two honest ones", NONE, x.soonest());
+        x.back();
+        way(x);
+        SampleHouse y = made(4, 2, 2, 2, 1, 1, 1, 0, 0);
+        check.due("a third of one colour leaves one alone with the other", NONE, y.soonest());
+        SampleHouse z = made(5, 2, 2, 1, 1, 1, 1, 1, 0, 0);
+        // 0 asks 1 and 2: 1; then the first for which 0 wins: 1 asks 3 and 4.
+        way(z, 0, 6, 1, 24);
+        z.protocol(0);
+        check.due("slush never decides", NONE, z.soonest());
+        check.due("none such", OTHERS, z.way(0, 0));
+        SampleHouse w = made(2, 1, 1, 1, 1);
+        check.due("nobody can ask", NONE, w.soonest());
+        w.colour(0, 1);
+        check.due("the other takes its colour", NONE, w.soonest());
+        w.colour(1, 0);
+        check.due("the first to ask makes both alike", NONE, w.soonest());
+    }
+
+    /** Each hears one that says 1 and one that says nothing: 4 by 4 by 5 by 5 by 5 states, none of them a split. */
+    private static void all2000() {
+        SampleHouse x = made(7, 1, 1, 3, 1, 1, 1, 0, 0, 0);
+        x.kind(5, 2);
+        x.kind(6, 4);
+        unlink(x, 5);
+        check.due("soonest()", NONE, x.soonest());
+        check.due("way(0, 0)", OTHERS, x.way(0, 0));
+        // Twelve by thirteen by thirteen are 2028.
+        SampleHouse y = made(5, 1, 1, 11, 1, 1, 0, 0);
+        y.kind(3, 2);
+        y.kind(4, 4);
+        unlink(y, 3);
+        check.due("soonest()", UNKNOWN, y.soonest());
+        check.due("way(0, 0)", UNKNOWN, y.way(0, 0));
+        check.due("way(5000, 1)", UNKNOWN, y.way(5000, 1));
+        check.due("others ahead of unknown", OTHERS, y.way(0, 2));
+        check.due("others ahead of unknown", OTHERS, y.way(-1, 0));
+        y.colour(2, NONE);
+        y.colour(1, NONE);
+        check.due("known again", NONE, y.soonest());
+    }
+
+    private static void unlink(SampleHouse x, int honest) {
+        for (int i = 0; i < honest; i++) {
+            for (int j = i + 1; j < honest; j++) {
+                check.due("link", true, x.link(i, j, false));
+            }
+        }
+    }
+
+    /** Found by trying many groups: the split is the 2000th state, and in the second the 2001st: none is ahead of it. */
+    private static void splitAtTheEdge() {
+        SampleHouse x = made(4, 1, 1, 6, 1, 1, 0, 1, 0);
+        x.kind(0, 4);
+        check.due("soonest()", 12, x.soonest());
+        SampleHouse y = made(3, 1, 1, 8, 1, 1, 0, 0);
+        y.run(3, -1790733660);
+        y.link(2, 0, false);
+        check.due("soonest()", 15, y.soonest());
+        check.due("way(0, 1)", 2, y.way(0, 1));
+        for (int i = 0; i < 15; i++) {
+            check.due("not yet", 0, y.count(14));
+            int node = y.way(0, 0);
+            check.due("one is left the less", 15 - i, y.soonest());
+            check.due("its way can be gone", true, y.query(node, y.way(0, 1)) >= 0);
+        }
+        check.due("there", 1, y.count(14));
+    }
+
+    private static void chain() {
+        SampleHouse x = new SampleHouse();
+        long[][] four = {{0, 1, 0, 1}, {0, 1, 4, 1}, {1, 2, 7, 1}, {1, 1, 4, 1}, {1, 1, 0, 1}};
+        for (int j = 0; j <= 4; j++) {
+            for (int what = 0; what < 4; what++) {
+                check.due("chain(" + j + ", " + what + ")", four[j][what], x.chain(j, what));
+            }
+        }
+        for (int j : new int[] {-1, 5, FAR, LOW}) {
+            check.due("chain(" + j + ", 0)", NONE, x.chain(j, 0));
+            check.due("chain(" + j + ", 2)", NONE, x.chain(j, 2));
+        }
+        for (int what : new int[] {-1, 4, FAR, LOW}) {
+            check.due("chain(1, " + what + ")", NONE, x.chain(1, what));
+        }
+        x.colour(0, 1);
+        x.kind(1, 4);
+        x.link(2, 3, false);
+        x.protocol(2);
+        check.due("all are honest, linked, slush", 7, x.chain(2, 2));
+        x.group(4, 3, 3, 1);
+        check.due("stays between", 0, x.chain(2, 0));
+        check.due("stays between", 1, x.chain(2, 1));
+        check.due("no time", NONE, x.chain(2, 2));
+        check.due("no time", NONE, x.chain(2, 3));
+        check.due("from 1 down", 4, x.chain(1, 2));
+        check.due("from 0", 0, x.chain(0, 2));
+        check.due("from 0", 1, x.chain(0, 3));
+        check.due("from 4", 0, x.chain(4, 2));
+    }
+
+    public static void main(String[] args) {
+        twoNodes();
+        followsChanges();
+        doNothing();
+        refused();
+        tooGreat();
+        justKnown();
+        justUnknown();
+        odds();
+        soonest();
+        all2000();
+        splitAtTheEdge();
+        chain();
+        check.end("OddsTest");
+    }
+}
