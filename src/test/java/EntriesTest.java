@@ -226,6 +226,32 @@ public final class EntriesTest {
         set(x, 0, 4, 5, 5, 1, 5);
     }
 
+    /** Both parents are to be accepted. */
+    private static void bothParents() {
+        SampleHouse x = made(2, 1, 1, 4, 1);
+        x.entry(0, NONE, NONE);
+        x.entry(1, NONE, NONE);
+        x.entry(1, NONE, NONE);
+        x.entry(2, 0, 1);
+        x.entry(3, 1, 0);
+        check.due("0 is accepted, 1 is not", 2, x.poll(0, 3, 2));
+        check.due("nor 3", 0, x.view(0, 3, 4));
+        check.due("again not", 1, x.poll(0, 4, 2));
+        set(x, 0, 0, 0, 0, 1, 0);
+        set(x, 0, 1, 1, 1, 2, NONE);
+        set(x, 0, 2, 3, 3, 1, NONE);
+        set(x, 0, 3, 4, 4, 1, NONE);
+        SampleHouse y = made(2, 1, 1, 4, 1);
+        y.entry(0, NONE, NONE);
+        y.entry(0, NONE, NONE);
+        y.entry(1, NONE, NONE);
+        y.entry(2, 2, 0);
+        check.due("2 is accepted, 0 is not", 2, y.poll(0, 3, 2));
+        set(y, 0, 1, 2, 2, 1, 2);
+        set(y, 0, 0, 0, 0, 1, NONE);
+        set(y, 0, 2, 3, 3, 1, NONE);
+    }
+
     /** One that is LAST, but not PREFERRED, is not accepted however it counts. */
     private static void lastIsNotPreferred() {
         SampleHouse x = made(2, 1, 1, 1, 1);
@@ -294,7 +320,8 @@ public final class EntriesTest {
         }
         check.due("count(16)", 0, x.count(16));
         check.due("no entries", 0, x.polls(100, 1));
-        check.due("count(16)", 1, x.count(16));
+        check.due("no entries", 0, x.polls(1, -5));
+        check.due("count(16)", 2, x.count(16));
         x.entry(0, NONE, NONE);
         x.entry(0, NONE, NONE);
         x.entry(1, 0, NONE);
@@ -304,9 +331,14 @@ public final class EntriesTest {
         y.entry(0, NONE, NONE);
         y.entry(1, 0, NONE);
         y.kind(3, 2);
-        int want = drawnPolls(y, 40, 9);
-        check.due("polls(40, 9)", want, x.polls(40, 9));
-        check.due("some had yes", true, want > 0);
+        check.due("polls(1, 77)", drawnPolls(y, 1, 77), x.polls(1, 77));
+        check.due("count(13)", y.count(13), x.count(13));
+        int first = drawnPolls(y, 5, 9);
+        check.due("polls(5, 9)", first, x.polls(5, 9));
+        check.due("count(13)", y.count(13), x.count(13));
+        int second = drawnPolls(y, 80, 8);
+        check.due("polls(80, 8)", second, x.polls(80, 8));
+        check.due("some had yes", true, first + second > 0);
         check.due("count(13)", 9, x.count(13));
         check.due("count(13)", 9, y.count(13));
         for (int node = 0; node < 3; node++) {
@@ -406,6 +438,7 @@ public final class EntriesTest {
         lineInOneSet();
         acceptance();
         earlyWaitsForParents();
+        bothParents();
         lastIsNotPreferred();
         laterOnes();
         liarsSeeEntries();

@@ -77,7 +77,12 @@ public final class NodesTest {
         check.due("entry is the first again", 0, x.entry(3, NONE, NONE));
         check.due("no chit", 0, x.view(0, 0, 0));
         check.due("not polled", 0, x.view(0, 0, 1));
-        check.due("no preferred of the old", NONE, x.set(0, 0, 0));
+        for (int what = 0; what < 4; what++) {
+            check.due("set 0 as at first", what == 2 ? 0 : NONE, x.set(0, 0, what));
+        }
+        check.due("set 0 again", 1, x.entry(0, NONE, NONE));
+        check.due("the first of its set again", 1, x.set(0, 0, 0));
+        check.due("no ancestors of the old", 0, x.of(1, 3) + x.of(0, 4));
         x.group(4, 1, 1, 3);
         counts(x, 4, 3);
         x.group(4, 1, 1, 15);
@@ -296,6 +301,11 @@ public final class NodesTest {
         check.due("2 and 3 outvote 1", 1, x.query(0, 14));
         node(x, 0, 0, NONE, 1);
         node(x, 1, 1, NONE, 0, 0, 0, 0, 0, 0);
+        SampleHouse y = made(3, 2, 2, 2, 1, NONE, NONE, 1);
+        check.due("0 and 1 take 1", 0, y.query(2, 3));
+        node(y, 0, 1, NONE, 0, 0, 0, 0, 0, 0);
+        node(y, 1, 1, NONE, 0, 0, 0, 0, 0, 0);
+        node(y, 2, 1, NONE, 1, 0, 0, 0, 0, 1);
         node(x, 4, NONE);
         check.due("1 again by 1 and 4, which takes 0", 2, x.query(0, 26));
         node(x, 4, 0);
@@ -315,36 +325,48 @@ public final class NodesTest {
         check.due("would after all", 2, x.query(0, 6));
     }
 
-    /** The draws of seed 1: 1103527590, 2524885223 .. (as ints), worked out here once more with longs. */
     private static void promise10() {
-        SampleHouse x = made(4, 2, 2, 3, 1, 1, 1, 0, 0);
-        long seed = 1;
-        int[] queries = new int[4];
-        SampleHouse y = made(4, 2, 2, 3, 1, 1, 1, 0, 0);
+        int[][] groups = {{4, 2, 2}, {6, 3, 2}, {8, 7, 4}, {8, 1, 1}, {2, 1, 1}, {5, 4, 3}};
+        for (int[] g : groups) {
+            for (int seed : new int[] {1, 0, -1, LOW, FAR, 20261119}) {
+                for (int n : new int[] {1, 7, 12, 60, 300}) {
+                    drawnRun(g[0], g[1], g[2], n, seed);
+                }
+            }
+        }
+    }
+
+    /** The same by single queries, with draws made of longs. */
+    private static void drawnRun(int nodes, int sample, int alpha, int n, int first) {
+        int[] colours = new int[nodes - 1];
+        for (int i = 0; i < nodes - 1; i++) {
+            colours[i] = i & 1;
+        }
+        SampleHouse x = made(nodes, sample, alpha, 3, 1, colours);
+        SampleHouse y = made(nodes, sample, alpha, 3, 1, colours);
+        long seed = first & 0xFFFFFFFFL;
         int decided = 0;
-        for (int i = 0; i < 40; i++) {
+        for (int i = 0; i < n; i++) {
             seed = next(seed);
-            int node = (int) ((seed >> 8) % 4);
+            int node = (int) ((seed >> 8) % nodes);
             java.util.ArrayList<Integer> others = new java.util.ArrayList<>();
-            for (int o = 0; o < 4; o++) {
+            for (int o = 0; o < nodes; o++) {
                 if (o != node) {
                     others.add(o);
                 }
             }
-            seed = next(seed);
-            int sample = 1 << others.remove((int) ((seed >> 8) % 3));
-            seed = next(seed);
-            sample |= 1 << others.remove((int) ((seed >> 8) % 2));
-            int answer = y.query(node, sample);
-            queries[node] += answer == NONE ? 0 : 1;
-            decided += answer == 2 ? 1 : 0;
+            int bits = 0;
+            for (int k = 0; k < sample; k++) {
+                seed = next(seed);
+                bits |= 1 << others.remove((int) ((seed >> 8) % others.size()));
+            }
+            decided += y.query(node, bits) == 2 ? 1 : 0;
         }
-        check.due("run(40, 1)", decided, x.run(40, 1));
-        check.due("some are decided", true, decided > 0);
-        for (int i = 0; i < 4; i++) {
-            node(x, i, y.node(i, 0), y.node(i, 1), y.node(i, 2), 0, 0, y.node(i, 5), 0, queries[i]);
+        check.due("run(" + n + ", " + first + ")", decided, x.run(n, first));
+        for (int i = 0; i < nodes; i++) {
+            node(x, i, y.node(i, 0), y.node(i, 1), y.node(i, 2), 0, 0, y.node(i, 5), 0, y.node(i, 7));
         }
-        counts(x, 12, y.count(12), 16, 5);
+        counts(x, 12, y.count(12), 16, nodes);
     }
 
     private static long next(long seed) {

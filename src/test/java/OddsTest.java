@@ -162,6 +162,11 @@ public final class OddsTest {
         check.due("odds(11)", UNKNOWN, x.odds(11));
         check.due("others ahead of unknown", NONE, x.colours(11, 7));
         check.due("10 is known ever again", 0, x.exact(10, 1));
+        x.link(0, 4, false);
+        x.link(0, 5, false);
+        check.due("fewer states, known anew", 0, x.exact(12, 1));
+        x.group(2, 1, 1, 1);
+        exact(x, 12, 4096, 0, 0);
     }
 
     /** Four that hear liars have 2001 states behind seven queries. */
@@ -178,6 +183,30 @@ public final class OddsTest {
         check.due("exact(6, 2)", 0, x.exact(6, 2));
         check.due("exact(7, 2)", UNKNOWN, x.exact(7, 2));
         check.due("exact(7, 0)", BigInteger.valueOf(42).pow(7).longValueExact(), x.exact(7, 0));
+    }
+
+    /** 0 asks 1 or 2, and gives its colour to the one it asks; only 2 hears one who says 0. */
+    private static void blanks() {
+        SampleHouse x = made(4, 1, 1, 1, 1, 1);
+        x.kind(3, 1);
+        x.link(0, 3, false);
+        x.link(1, 2, false);
+        x.link(1, 3, false);
+        exact(x, 1, 12, 0, 0);
+        colours(x, 1, 0, 10, 2, 0, 0);
+        exact(x, 2, 144, 1, 0);
+        way(x, 0, 4, 2, 8);
+        x.link(0, 2, false);
+        exact(x, 2, 144, 0, 0);
+        check.due("2 gets no colour", NONE, x.soonest());
+    }
+
+    /** In each state behind two queries there still is one without colour. */
+    private static void blanksUnknown() {
+        SampleHouse x = made(8, 3, 2, 15, 1, 1);
+        check.due("exact(1, 1)", 0, x.exact(1, 1));
+        check.due("exact(3, 1)", UNKNOWN, x.exact(3, 1));
+        check.due("exact(3, 0)", 280L * 280 * 280, x.exact(3, 0));
     }
 
     /** From node on: one says 0, one says 1, one says nothing. */
@@ -265,6 +294,9 @@ public final class OddsTest {
         check.due("way(5000, 1)", UNKNOWN, y.way(5000, 1));
         check.due("others ahead of unknown", OTHERS, y.way(0, 2));
         check.due("others ahead of unknown", OTHERS, y.way(-1, 0));
+        SampleHouse z = made(5, 1, 1, 4, 1, 1, 1, 0, 1, 0);
+        z.kind(0, 4);
+        check.due("a split behind too many states", UNKNOWN, z.soonest());
         y.colour(2, NONE);
         y.colour(1, NONE);
         check.due("known again", NONE, y.soonest());
@@ -336,6 +368,8 @@ public final class OddsTest {
         tooGreat();
         justKnown();
         justUnknown();
+        blanks();
+        blanksUnknown();
         odds();
         soonest();
         all2000();
