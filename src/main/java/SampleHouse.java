@@ -1101,7 +1101,7 @@ public final class SampleHouse {
             version = asOf;
             boolean ended = asking.isSplit(row, 0);
             fewest = ended ? 0 : NONE;
-            for (int state = 0; state < states.size && !ended; state++) {
+            for (int state = 0; state < MOST_STATES && state < states.size && !ended; state++) {
                 for (int node = 0; node < rules.nodes && !ended; node++) {
                     ended = asking.listen(states.rows, state * MOST_NODES, node) && open(state, node);
                 }
@@ -1391,17 +1391,17 @@ public final class SampleHouse {
         }
 
         int widest() {
-            return widestOf((1 << entries) - 1, 0);
+            return widestOf(this, (1 << entries) - 1, 0);
         }
 
-        /** The least of the entries is left out, or taken and all related to it left out. */
-        private int widestOf(int among, int from) {
-            for (int e = from; e < entries; e++) {
+        /** The least of the entries is left out, or taken and all related to it left out; from grows with the depth. */
+        private static int widestOf(Graph graph, int among, int from) {
+            for (int e = from; e < graph.entries; e++) {
                 if ((among >> e & 1) == 1) {
                     int rest = among & ~(1 << e);
-                    int free = rest & ~(ancestors[e] | progeny[e]);
-                    int taken = 1 + widestOf(free, e + 1);
-                    return free == rest ? taken : Math.max(taken, widestOf(rest, e + 1));
+                    int free = rest & ~(graph.ancestors[e] | graph.progeny[e]);
+                    int taken = 1 + widestOf(graph, free, e + 1);
+                    return free == rest ? taken : Math.max(taken, widestOf(graph, rest, e + 1));
                 }
             }
             return 0;

@@ -11,30 +11,6 @@ public final class BackTest {
         }
     }
 
-    /** All that can be taken back, as one text. */
-    private static String seen(SampleHouse x) {
-        StringBuilder s = new StringBuilder();
-        for (int node = 0; node < x.count(0); node++) {
-            for (int what = 0; what < 7; what++) {
-                s.append(x.node(node, what)).append(' ');
-            }
-            for (int set = 0; set < 8 && x.node(node, 6) == 0; set++) {
-                for (int what = 0; what < 4; what++) {
-                    s.append(x.set(node, set, what)).append(' ');
-                }
-            }
-            for (int entry = 0; entry < x.count(9) && x.node(node, 6) == 0; entry++) {
-                for (int what = 0; what < 5; what++) {
-                    s.append(x.view(node, entry, what)).append(' ');
-                }
-            }
-        }
-        for (int what : new int[] {0, 1, 2, 3, 6, 7, 8, 9, 10, 11, 14, 15}) {
-            s.append(x.count(what)).append(' ');
-        }
-        return s.toString();
-    }
-
     /** Each of the seven calls is taken back, the last first. */
     private static void eachCall() {
         SampleHouse x = new SampleHouse();
@@ -45,7 +21,7 @@ public final class BackTest {
         check.due("nothing is done yet", false, x.back());
         String[] before = new String[8];
         for (int i = 0; i < 8; i++) {
-            before[i] = seen(x);
+            before[i] = Seen.group(x);
             switch (i) {
                 case 0: check.due("colour", true, x.colour(0, 1)); break;
                 case 1: check.due("kind", 0, x.kind(3, 2)); break;
@@ -56,14 +32,14 @@ public final class BackTest {
                 case 6: check.due("polls", true, x.polls(20, 3) > 0); break;
                 default: check.due("colour", true, x.colour(0, 0)); break;
             }
-            check.due("another group behind call " + i, false, seen(x).equals(before[i]));
+            check.due("another group behind call " + i, false, Seen.group(x).equals(before[i]));
             counts(x, 16, i + 1);
         }
         int queries = x.count(12);
         int polls = x.count(13);
         for (int i = 7; i >= 0; i--) {
             check.due("back", true, x.back());
-            check.due("as ahead of call " + i, true, seen(x).equals(before[i]));
+            check.due("as ahead of call " + i, true, Seen.group(x).equals(before[i]));
             counts(x, 16, i, 12, queries, 13, polls);
         }
         check.due("back", false, x.back());

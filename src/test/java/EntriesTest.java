@@ -349,19 +349,12 @@ public final class EntriesTest {
         check.due("nothing is left", 0, x.polls(100, 9));
     }
 
-    private static long seed;
-
-    private static int draw(int m) {
-        seed = (seed * 1103515245L + 12345L) & 0xFFFFFFFFL;
-        return (int) ((seed >> 8) % m);
-    }
-
-    /** The same by single polls, drawn with longs; of 4 nodes the fourth lies, samples of 2. */
+    /** The same by single polls; of 4 nodes the fourth lies, samples of 2. */
     private static int drawnPolls(SampleHouse y, int n, int first) {
-        seed = first;
+        Draws draws = new Draws(first);
         int had = 0;
         for (int i = 0; i < n; i++) {
-            int node = draw(4);
+            int node = draws.of(4);
             java.util.ArrayList<Integer> open = new java.util.ArrayList<>();
             for (int e = 0; node != 3 && e < 3; e++) {
                 if (y.view(node, e, 1) == 0) {
@@ -369,12 +362,8 @@ public final class EntriesTest {
                 }
             }
             if (!open.isEmpty()) {
-                int entry = open.get(draw(open.size()));
-                java.util.ArrayList<Integer> others = new java.util.ArrayList<>(java.util.List.of(0, 1, 2, 3));
-                others.remove(node);
-                int sample = 1 << others.remove(draw(3));
-                sample |= 1 << others.remove(draw(2));
-                had += y.poll(node, entry, sample) > 0 ? 1 : 0;
+                int entry = open.get(draws.of(open.size()));
+                had += y.poll(node, entry, draws.sample(4, node, 2)) > 0 ? 1 : 0;
             }
         }
         return had;

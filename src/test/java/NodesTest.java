@@ -336,7 +336,7 @@ public final class NodesTest {
         }
     }
 
-    /** The same by single queries, with draws made of longs. */
+    /** The same by single queries. */
     private static void drawnRun(int nodes, int sample, int alpha, int n, int first) {
         int[] colours = new int[nodes - 1];
         for (int i = 0; i < nodes - 1; i++) {
@@ -344,33 +344,17 @@ public final class NodesTest {
         }
         SampleHouse x = made(nodes, sample, alpha, 3, 1, colours);
         SampleHouse y = made(nodes, sample, alpha, 3, 1, colours);
-        long seed = first & 0xFFFFFFFFL;
+        Draws draws = new Draws(first);
         int decided = 0;
         for (int i = 0; i < n; i++) {
-            seed = next(seed);
-            int node = (int) ((seed >> 8) % nodes);
-            java.util.ArrayList<Integer> others = new java.util.ArrayList<>();
-            for (int o = 0; o < nodes; o++) {
-                if (o != node) {
-                    others.add(o);
-                }
-            }
-            int bits = 0;
-            for (int k = 0; k < sample; k++) {
-                seed = next(seed);
-                bits |= 1 << others.remove((int) ((seed >> 8) % others.size()));
-            }
-            decided += y.query(node, bits) == 2 ? 1 : 0;
+            int node = draws.of(nodes);
+            decided += y.query(node, draws.sample(nodes, node, sample)) == 2 ? 1 : 0;
         }
         check.due("run(" + n + ", " + first + ")", decided, x.run(n, first));
         for (int i = 0; i < nodes; i++) {
             node(x, i, y.node(i, 0), y.node(i, 1), y.node(i, 2), 0, 0, y.node(i, 5), 0, y.node(i, 7));
         }
         counts(x, 12, y.count(12), 16, nodes);
-    }
-
-    private static long next(long seed) {
-        return (seed * 1103515245L + 12345L) & 0xFFFFFFFFL;
     }
 
     private static void promise10Edges() {
