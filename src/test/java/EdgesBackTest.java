@@ -279,6 +279,30 @@ public final class EdgesBackTest {
         }
     }
 
+    private static void numbers() {
+        check.promise(27, "What 0: NODES, 1: SAMPLE, 2: ALPHA, 3: BETA, 4: EARLY, 5: PROTOCOL, 6: HONEST ones");
+        SampleHouse x = new SampleHouse();
+        x.group(8, 7, 6, 5);
+        x.early(4);
+        x.protocol(0);
+        int[] want = {8, 7, 6, 5, 4, 0, 255};
+        for (int what = 0; what < want.length; what++) {
+            check.due("count(" + what + ")", want[what], x.count(what));
+        }
+        check.promise(27, "9: ENTRIES, 10: SPLIT SETS, as bits, 11: WIDEST, 12: QUERIES made, 13: POLLS made");
+        SampleHouse y = busy();
+        for (int i = 0; i < 4; i++) {
+            check.due("count(9)", 4 + i, y.count(9));
+            y.entry(i, NONE, NONE);
+            check.due("count(12)", i, y.count(QUERIES_MADE));
+            check.due("query", true, y.query(i % 2, 4) >= 0);
+            check.due("count(13)", i, y.count(POLLS_MADE));
+            check.due("poll", true, y.poll(i % 3, i, 8) >= 0);
+        }
+        check.promise(27, "16: what can be taken BACK.");
+        check.due("a QUERY and a POLL", 2, y.count(KEPT));
+    }
+
     private static void others() {
         check.promise(27, "NONE for another what.");
         SampleHouse x = busy();
@@ -300,6 +324,7 @@ public final class EdgesBackTest {
         decidedUnlike();
         bits();
         pairs();
+        numbers();
         others();
         check.promised(26, 27);
         check.end("EdgesBackTest");

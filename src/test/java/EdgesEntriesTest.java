@@ -90,11 +90,13 @@ public final class EdgesEntriesTest {
             noEntry(x, 0, NONE, parent);
         }
         entries(x, alone(0), below(0, 0), new int[] {0, NONE, 1}, new int[] {0, 2, 0}, new int[] {0, 0, 3});
+        check.promise(22, "1, 2: PARENTS, as told (NONE)");
         of(x, 0, 0, NONE, NONE);
         of(x, 1, 0, 0, NONE);
         of(x, 2, 0, NONE, 1);
         of(x, 3, 0, 2, 0);
         of(x, 4, 0, 0, 3);
+        check.term("with two PARENTS at most, told ahead.");
         for (int parent : new int[] {LOW, -2, 5, 6, 16, 32, FAR}) {
             noEntry(x, 0, parent, NONE);
             noEntry(x, 0, 4, parent);
@@ -498,16 +500,16 @@ public final class EdgesEntriesTest {
         check.term("its PARENTS are all ACCEPTED");
         for (int second = 0; second < 2; second++) {
             SampleHouse x = two(3, 1);
-            // 0 is alone, 1 is not; the parents of 3 are both, in either order.
-            entries(x, alone(0), alone(1), alone(1), new int[] {2, second, 1 - second}, below(3, 3), below(3, 3));
+            // 0 is alone, 1 is not and waits for BETA; the parents of 3 are both, in either order.
+            entries(x, alone(0), alone(1), alone(1), new int[] {2, second, 1 - second}, below(3, 3), below(4, 1));
+            poll(x, 5, YES, 1);
             poll(x, 3, YES, 2);
             view(x, 0, 0, 0, 0, 1, 1, 1);
             view(x, 0, 3, 1, 1, 1, 1, 0);
-            poll(x, 4, YES, 1);
-            view(x, 0, 3, 1, 1, 2, 1, 0);
-            poll(x, 5, YES, 2);
+            poll(x, 4, YES, 2);
             view(x, 0, 1, 0, 0, 3, 1, 1);
-            view(x, 0, 3, 1, 1, 3, 1, 1);
+            set(x, 0, 2, 3, 3, 2, 3);
+            set(x, 0, 3, 4, 4, 1, 4);
         }
         // Without PARENTS none is to wait for, though 0 is open.
         SampleHouse z = two(15, 1);
@@ -714,6 +716,7 @@ public final class EdgesEntriesTest {
             check.none("a liar", () -> x.set(1, 7, 0));
             check.none("a liar", () -> x.set(1, 0, 3));
         }
+        check.promise(24, "what 0: PREFERRED (NONE: it has no ENTRY), 1: LAST (NONE), 2: COUNT");
         set(x, 0, 0, NONE, NONE, 0, NONE);
         set(x, 0, 7, 0, NONE, 0, NONE);
     }

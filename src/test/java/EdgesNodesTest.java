@@ -187,6 +187,8 @@ public final class EdgesNodesTest {
     }
 
     private static void atFirst() {
+        check.head("public static final int NONE = -1;");
+        check.due("NONE", -1, SampleHouse.NONE);
         check.promise(1, "As told above (at first).");
         SampleHouse x = new SampleHouse();
         int[] counts = {4, 2, 2, 3, 2, FLAKE, 15, 0, 0, 0, 0, 0, 0, 0, 0, 0, 0};
@@ -489,13 +491,13 @@ public final class EdgesNodesTest {
         SampleHouse x = made(4, 2, 2, 9, BALL, 1, 1, 1, 0);
         x.early(7);
         x.entry(0, NONE, NONE);
-        x.entry(0, 0, NONE);
+        x.entry(1, 0, NONE);
         x.kind(3, 2);
         x.link(0, 3, false);
         x.query(0, 6);
         x.run(9, 9);
         x.poll(0, 1, 6);
-        x.polls(9, 9);
+        x.polls(4, 3);
         return x;
     }
 
@@ -511,6 +513,7 @@ public final class EdgesNodesTest {
         x.group(4, 2, 2, 15);
         check.due("and so it stays", 6, x.count(4));
         SampleHouse y = busy();
+        check.due("it has counted", true, y.set(0, 0, 2) > 0 && y.set(0, 1, 1) == 1 && y.view(0, 1, 0) == 1);
         y.group(4, 2, 2, 3);
         y.protocol(FLAKE);
         y.early(2);
@@ -698,8 +701,13 @@ public final class EdgesNodesTest {
     }
 
     private static void nodeTells() {
-        check.promise(11, "7: QUERIES it made; -2: others.");
+        check.promise(11, "Of a NODE, what 0: COLOUR (NONE), 1: LAST (NONE), 2: COUNTER");
         SampleHouse x = five(3, BALL);
+        node(x, 0, 1, NONE, 0);
+        x.colour(0, NONE);
+        node(x, 0, NONE, NONE, 0);
+        x.colour(0, 1);
+        check.promise(11, "7: QUERIES it made; -2: others.");
         ask(x, FOR_1, 0, FOR_NONE, 0, FOR_1, 0, FOR_1, 0, FOR_1, 2, FOR_1, NONE);
         x.would(0, FOR_1);
         node(x, 0, 1, 1, 3, 0, 4, 1, 0, 5);

@@ -1,6 +1,6 @@
 import java.math.BigInteger;
 
-/** Promises 12 to 17 and part 2 of the terms: each sentence that names a boundary has a test of its own. */
+/** Promises 12 to 16 and part 2 of the terms, but for CHAIN: each sentence that names a boundary has a test of its own. */
 public final class EdgesOddsTest {
     private static final int NONE = SampleHouse.NONE;
     private static final int OTHERS = -2;
@@ -143,6 +143,19 @@ public final class EdgesOddsTest {
         return x;
     }
 
+    /** Of three the last lies, and is asked all the same: two of the six ways of a query are its own. */
+    private static void allWays() {
+        check.term("each is of any of all NODES and with any of all its SAMPLES, equally likely;");
+        SampleHouse x = made(3, 1, 1, 1, FLAKE, 1, 1);
+        x.kind(2, 1);
+        exact(x, 1, 6, 0, 0);
+        colours(x, 1, 0, 2, 4, 0);
+        // Both ask, in either order: unlike, if the first asks the second, and the second the liar.
+        exact(x, 2, 36, 2, 6);
+        x.kind(2, 3);
+        colours(x, 1, 0, 2, 4, 0);
+    }
+
     private static void splitOfTwo() {
         check.term("Of these SPLITS: those behind which two HONEST ones are DECIDED unlike;");
         SampleHouse x = split();
@@ -260,7 +273,7 @@ public final class EdgesOddsTest {
     }
 
     private static void soonestNow() {
-        check.term("(0: they are now)");
+        check.term("SOONEST: the fewest QUERIES, of whichever HONEST NODES, with whichever SAMPLES, behind which two HONEST ones are DECIDED unlike (0: they are now).");
         SampleHouse x = split();
         way(x);
         x.kind(2, 3);
@@ -475,88 +488,10 @@ public final class EdgesOddsTest {
         check.still("others ahead of UNKNOWN", y, OTHERS, () -> y.way(0, 2));
     }
 
-    private static void chain(SampleHouse x, int j, long... want) {
-        for (int what = 0; what < want.length; what++) {
-            check.due("chain(" + j + ", " + what + ")", want[what], x.chain(j, what));
-        }
-    }
-
-    private static void chainBounds() {
-        check.term("CHAIN: NODES all HONEST, all LINKED, j (0 to NODES) of COLOUR 1, others 0, SLUSH by SAMPLE, ALPHA as they are");
-        SampleHouse x = made(3, 1, 1, 3, FLAKE);
-        for (int n = 2; n <= 8; n++) {
-            x.group(n, 1, 1, 3);
-            for (int what = 0; what < 4; what++) {
-                for (int j : new int[] {LOW, -1, n + 1, FAR}) {
-                    int asked = what;
-                    check.still("chain(" + j + ", " + what + ")", x, NONE, () -> x.chain(j, asked));
-                }
-            }
-            chain(x, 0, 0, 1, 0, 1);
-            chain(x, n, 1, 1, 0, 1);
-            for (int j = 1; j < n; j++) {
-                check.due("as likely as there are such", (long) j * x.chain(j, 1), n * x.chain(j, 0));
-            }
-        }
-        x.group(3, 1, 1, 3);
-        chain(x, 1, 1, 3, 3, 1);
-        x.colour(0, 1);
-        x.kind(1, 4);
-        x.link(0, 2, false);
-        x.protocol(BALL);
-        chain(x, 1, 1, 3, 3, 1);
-        x.group(2, 1, 1, 3);
-        chain(x, 1, 1, 2, 1, 1);
-    }
-
-    /** All of three others must have it: 2 of 4 stay for ever, 1 and 3 are left by one of sixteen queries in all. */
-    private static void chainStays() {
-        check.term("the ODDS that all come to have 1 (0, if it stays between for ever), and TIME: how many QUERIES it takes, on an average, till all have one COLOUR (none, if that may never be).");
-        SampleHouse x = made(4, 3, 3, 1, FLAKE);
-        chain(x, 0, 0, 1, 0, 1);
-        chain(x, 1, 0, 1, 4, 1);
-        chain(x, 2, 0, 1, NONE, NONE);
-        chain(x, 3, 1, 1, 4, 1);
-        chain(x, 4, 1, 1, 0, 1);
-        x.group(8, 7, 7, 1);
-        for (int j = 2; j <= 6; j++) {
-            chain(x, j, 0, 1, NONE, NONE);
-        }
-        chain(x, 1, 0, 1, 8, 1);
-        chain(x, 7, 1, 1, 8, 1);
-        x.group(4, 3, 2, 1);
-        chain(x, 1, 0, 1, 4, 1);
-        chain(x, 2, 1, 2, 5, 1);
-        chain(x, 3, 1, 1, 4, 1);
-        x.group(8, 4, 4, 1);
-        for (int j = 0; j <= 8; j++) {
-            check.due("4 of 8 is not stuck: " + j, true, x.chain(j, 2) >= 0);
-        }
-        x.group(8, 5, 5, 1);
-        for (int j = 0; j <= 8; j++) {
-            check.due("4 of 8 is stuck alone: " + j, j != 4, x.chain(j, 3) >= 0);
-        }
-    }
-
-    private static void chainTells() {
-        check.promise(17, "CHAIN, what 0, 1: ODDS, above, below, 2, 3: TIME, above, below; NONE: others, no TIME; -2: TOO GREAT.");
-        SampleHouse x = new SampleHouse();
-        chain(x, 2, 1, 2, 7, 1);
-        for (int what : new int[] {LOW, -1, 4, FAR}) {
-            check.still("chain(2, " + what + ")", x, NONE, () -> x.chain(2, what));
-            check.still("chain(0, " + what + ")", x, NONE, () -> x.chain(0, what));
-        }
-        x.group(4, 3, 3, 1);
-        chain(x, 2, 0, 1, NONE, NONE);
-        check.still("a refused group", x, 0, () -> x.group(4, 4, 4, 4) ? 1 : 0);
-        chain(x, 2, 0, 1, NONE, NONE);
-        x.group(4, 2, 2, 1);
-        chain(x, 2, 1, 2, 7, 1);
-    }
-
     public static void main(String[] args) {
         tBounds();
         doNothing();
+        allWays();
         splitOfTwo();
         oneAtLeast();
         waysTooGreat();
@@ -576,10 +511,7 @@ public final class EdgesOddsTest {
         oddsTell();
         oddsOfAllSizes();
         wayTells();
-        chainBounds();
-        chainStays();
-        chainTells();
-        check.promised(12, 17);
+        check.promised(12, 16);
         check.end("EdgesOddsTest");
     }
 }
