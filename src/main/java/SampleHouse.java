@@ -1050,10 +1050,10 @@ public final class SampleHouse {
             int slot = next.slotOf(work);
             int state = next.at(slot);
             if (state == NONE) {
-                if (next.isFull()) {
+                state = next.isFull() ? NONE : next.add(slot, work);
+                if (state == NONE) {
                     return false;
                 }
-                state = next.add(slot, work);
                 nextWays[state] = 0;
             }
             nextWays[state] += more;
@@ -1146,11 +1146,11 @@ public final class SampleHouse {
                 return false;
             }
             boolean such = asking.isSplit(work, 0);
-            if (!such && states.isFull()) {
+            int found = such || !states.isFull() ? states.add(slot, work) : NONE;
+            if (found == NONE) {
                 fewest = UNKNOWN;
                 return true;
             }
-            int found = states.add(slot, work);
             parent[found] = state;
             byNode[found] = node;
             bySample[found] = sample;
@@ -1181,6 +1181,8 @@ public final class SampleHouse {
 
     /** A fraction in least terms, 0 or more; below is 0 if it is too great. */
     private static final class Fraction {
+        private static final long GREATEST = 0x7FFFFFFFFFFFFFFFL;
+
         final long above;
         final long below;
 
@@ -1219,11 +1221,11 @@ public final class SampleHouse {
             if (a < 0 || b < 0) {
                 return NONE;
             }
-            return a != 0 && b > Long.MAX_VALUE / a ? NONE : a * b;
+            return a != 0 && b > GREATEST / a ? NONE : a * b;
         }
 
         private static long sum(long a, long b) {
-            return a < 0 || b < 0 || a > Long.MAX_VALUE - b ? NONE : a + b;
+            return a < 0 || b < 0 || a > GREATEST - b ? NONE : a + b;
         }
 
         private static long difference(long a, long b) {

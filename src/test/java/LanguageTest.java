@@ -23,7 +23,7 @@ public final class LanguageTest {
     private static final String[] RULED_OUT = {"->", "::", "\\bfinally\\b", "\\btry\\b", "\\bcatch\\b", "\\bsynchronized\\b",
         "\\bassert\\b", "Exact\\(", "\\bequals\\(", "hashCode", "toString", "\\bpackage\\b", "\\bprotected\\b", "\\bObject\\b",
         "\\bSystem\\.(?!arraycopy\\()", "\\bArrays\\.(?!fill\\(|copyOf\\(|copyOfRange\\()", "\\bFloat\\b", "\\bDouble\\b",
-        "\\bInteger\\.(?!bitCount\\()", "\\bMath\\.(?!min\\(|max\\()", "\\bLong\\.(?!MAX_VALUE\\b)", "\\binstanceof\\b",
+        "\\bInteger\\.(?!bitCount\\()", "\\bMath\\.(?!min\\(|max\\()", "\\bLong\\.", "\\binstanceof\\b",
         "\\bthrow (?!new NoSuchElementException\\(\\);)", "[^\\x00-\\x7F]"};
     private static Check check = new Check();
 
